@@ -661,7 +661,7 @@ public final class PaidInKind {
         static final int PLACE = 0, NUMBER = 1, KNOWN = 2, FAR = 3, HERE = 4, ROUND = 5, NAMES = 6;
         static final int OR = 0, AND = 1, NOT = 2, LESS = 3, EQUAL = 4, PLUS = 5, LESS_BY = 6, TIMES_BY = 7, MINUS = 8;
         /** In code, numbers stand for themselves, NAMES from here downward, what joins further down. */
-        static final int FIRST_NAME = -1, FIRST_JOIN = -10;
+        static final int FIRST_NAME = -1, FIRST_JOIN = FIRST_NAME - NAMES;
         /** Each of the six depths of brackets has at most five numbers waiting for what joins them. */
         static final int DEEPEST = 40;
 

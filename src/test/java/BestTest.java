@@ -9,6 +9,7 @@ public final class BestTest {
         gifts();
         giftThatHarms();
         missing();
+        eightRounds();
         walks();
         due.end();
     }
@@ -113,6 +114,21 @@ public final class BestTest {
         x.person(LOCAL, 0, 255);
         due.is("the only one", x.missed(0), 0);
         due.is("none more", x.missed(1), 0);
+    }
+
+    private static void eightRounds() {
+        for (int round = 7; round <= 8; round++) {
+            PaidInKind x = new PaidInKind();
+            for (int i = 0; i < 3; i++) x.person(LOCAL, 0, 2 << i);
+            x.set(4, 0, 0b1100);
+            x.set(4, 1, 0b0010);
+            x.set(4, 2, 0b0110);
+            Due.text(x, "takes round = " + round + " ; worth 1 ; times 1 ;");
+            x.force(1);
+            due.is("behind 8 ROUNDS", x.run(8, 0), round == 7 ? 9 : 3);
+            due.is("GIFT by then", x.gift(0, 1), round == 7 ? 10 : 4);
+            due.is("MISSED by then", x.missed(1), round == 7 ? 2 : 0);
+        }
     }
 
     private static void walks() {

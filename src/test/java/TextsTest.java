@@ -8,6 +8,8 @@ public final class TextsTest {
         openOnes();
         values();
         names();
+        everyChangeTells();
+        deepest();
         roomForTexts();
         forces();
         due.end();
@@ -72,6 +74,12 @@ public final class TextsTest {
         faultOfE("place1", 5);
         faultOfE("placefar", 0);
         faultOfE("here far", 5);
+        faultOfE("farz", 0);
+        faultOfE("zfar", 0);
+        faultOfE("far`", 3);
+        faultOfE("far{", 3);
+        faultOfE("1:", 1);
+        faultOfE("1/", 1);
         faultOfE("takes", 0);
         faultOfE("1 + worth", 4);
         faultOfE("1 or", 5);
@@ -131,6 +139,11 @@ public final class TextsTest {
         faultOfE("( - ( - ( 1 ) ) )", -1);
         faultOfE("( - ( - ( 1 ) - 1 * ( - 2 ) ) )", -1);
         faultOfE("( - ( - ( 1 ) - 1 * ( - - 2 ) ) )", 24);
+        // what a FAULT left open counts no more
+        PaidInKind x = new PaidInKind();
+        due.is("left open", Due.text(x, "takes ((((("), -111);
+        due.is("left open by not", Due.text(x, "takes not - - - - x"), -118);
+        due.is("none is open now", Due.text(x, "takes (((((1)))));worth -----1;times 1;"), 1);
     }
 
     private static int valueOf(String e) {
@@ -156,6 +169,8 @@ public final class TextsTest {
         value("(2 + 3) * 4", 20);
         value("9 - 3 - 2", 4);
         value("9 - 3 + 2", 8);
+        value("9 - 3 * 2", 3);
+        value("2 * 3 * 4 - 5 * 2 * 2 + 1", 5);
         value("- 3 * - 3", 9);
         value("-3 + 5", 2);
         value("3 - -5", 8);
@@ -170,6 +185,9 @@ public final class TextsTest {
         value("0 or 0 or -1", 1);
         value("5 and 3", 1);
         value("5 and 0", 0);
+        value("1 and 1", 1);
+        value("1 and 5", 1);
+        value("0 and 1", 0);
         value("5 and 3 and 0", 0);
         value("1 or 1 and 0", 1);
         value("(1 or 1) and 0", 0);
@@ -228,6 +246,42 @@ public final class TextsTest {
         due.is("being there", x.told(0, 25), 0);
         x.force(0);
         due.is("by TEXT 0", x.told(0, 35), 0);
+    }
+
+    /** From any NUMBER, PLACE, number of ways and ROUND to any other, what the text says is of the new ones. */
+    private static void everyChangeTells() {
+        PaidInKind x = new PaidInKind();
+        x.person(0, 0, 0);
+        Due.text(x, "takes place*8+round ; worth known*10+number ; times number+here*50 ;");
+        x.force(1);
+        int[] rounds = {0, 1, 2, 998, 999};
+        for (int i = 0; i < 90; i++) {
+            for (int j = 0; j < 90; j++) {
+                tell(x, i % 10, i / 10, i % 8, rounds[i % 5]);
+                tell(x, j % 10, j / 10, j % 8, rounds[j % 5]);
+            }
+        }
+    }
+
+    private static void tell(PaidInKind x, int number, int known, int at, int round) {
+        x.set(1, 0, number);
+        x.set(3, 0, (1 << known) - 1);
+        x.set(2, 0, at);
+        x.set(0, 0, round);
+        due.is("worth of " + known + ", " + number, x.told(0, 14), known * 10 + number);
+        due.is("time at " + at, x.told(0, 24), number + (at == 4 ? 50 : 0));
+        due.is("takes 0 in ROUND " + round, x.told(0, 30), round == 0 ? 0 : 1);
+    }
+
+    /** As many numbers as can wait to be joined at once: five for each of six depths. */
+    private static void deepest() {
+        String open = "0 or 1 and 1 < 1 + 1 * (";
+        String e = open + open + open + open + open + "0 or 1 and 1 < 1 + 1 * 1)))))";
+        PaidInKind x = new PaidInKind();
+        x.person(0, 0, 0);
+        due.is("deepest", Due.text(x, "takes 0;worth " + e.replace(" * ", "*").replace(" + ", "+").replace(" < ", "<") + "+1;times 0;"), 1);
+        x.force(1);
+        due.is("what it is", x.told(0, 10), 1);
     }
 
     private static void roomForTexts() {

@@ -191,6 +191,18 @@ public final class TradesTest {
         due.is("one", x.round(), 1);
         due.is("another one", x.round(), 1);
         due.is("none", x.round(), 0);
+        // PLACE 0 and who is 0 count like all others
+        x = new PaidInKind();
+        x.person(LOCAL, 0, 0b0001);
+        x.person(LOCAL, 0, 0b0010);
+        x.set(2, 0, 7);
+        x.set(2, 1, 7);
+        x.set(4, 1, 0b0001);
+        due.is("1 asks 0 for 0", x.run(1, 0), 4);
+        x.set(4, 1, 0);
+        x.set(4, 0, 0b0010);
+        due.is("0 tells 0 for 1", x.run(1, 0), 4);
+        due.is("pays with 0", x.pays(0, 1, 1), 0);
         // who asks first by numbers gets ahead
         x = new PaidInKind();
         x.person(LOCAL, 0, 0b0010);
@@ -217,6 +229,12 @@ public final class TradesTest {
         due.is("round 2", x.round(), 1);
         due.is("MINUTES", x.count(2), 4);
         Due.text(x, "takes round = 1001 ; worth 1 ; times 1 ;");
+        Due.text(x, "takes round = 1 ; worth 1 ; times 1 ;");
+        x.set(3, 0, 2);
+        x.set(3, 1, 4);
+        x.set(0, 0, 0);
+        x.force(3);
+        due.is("AT REST is of one ROUND", x.all(3), 1);
         x.force(2);
         x.set(3, 0, 2);
         x.set(3, 1, 4);
