@@ -214,14 +214,7 @@ public final class PaidInKind {
         if (told == null || !isPerson(one) || what < 0 || what > 5) return BAD;
         if (told.isMissing()) return NOTHING;
         if (told.size != PLACES) return BAD;
-        switch (what) {
-            case 0: return firstOtherwise(told, folk, one);
-            case 1: return kindsToldOf(told, one);
-            case 2: return numbersToldOf(told, one);
-            case 3: return placesToldOf(told, one);
-            case 4: return textsToldOf(told, one);
-            default: return peopleToldOf(told);
-        }
+        return what == 0 ? firstOtherwise(told, folk, one) : couldBe(told, one, what);
     }
 
     private int firstOtherwise(Sheet told, Folk f, int one) {
@@ -231,56 +224,33 @@ public final class PaidInKind {
         return NONE;
     }
 
-    /** The bit at i, if all is in thought as the SHEET tells. */
-    private int bitIfSo(Sheet told, int one, int i) {
-        return firstOtherwise(told, thought, one) == NONE ? 1 << i : 0;
-    }
-
-    private int kindsToldOf(Sheet told, int one) {
+    /** Those KINDS, NUMBERS, PLACES, TEXTS or PEOPLE (what 1 .. 5; bits) by which all would be as the SHEET tells. */
+    private int couldBe(Sheet told, int one, int what) {
         thought.become(folk);
+        int choices = choicesOf(what);
         int bits = 0;
-        for (int k = 0; k < Kinds.COUNT; k++) {
-            thought.kind[one] = k;
-            bits |= bitIfSo(told, one, k);
+        for (int i = 0; i < choices; i++) {
+            int who = one;
+            switch (what) {
+                case 1: thought.kind[one] = i; break;
+                case 2: thought.number[one] = i; break;
+                case 3: thought.place[one] = i; break;
+                case 4: thought.rule = i; break;
+                default: who = i;
+            }
+            if (firstOtherwise(told, thought, who) == NONE) bits |= 1 << i;
         }
         return bits;
     }
 
-    private int numbersToldOf(Sheet told, int one) {
-        thought.become(folk);
-        int bits = 0;
-        for (int n = 0; n <= MOST_NUMBER; n++) {
-            thought.number[one] = n;
-            bits |= bitIfSo(told, one, n);
+    private int choicesOf(int what) {
+        switch (what) {
+            case 1: return Kinds.COUNT;
+            case 2: return MOST_NUMBER + 1;
+            case 3: return PLACES;
+            case 4: return rules.size;
+            default: return folk.size;
         }
-        return bits;
-    }
-
-    private int placesToldOf(Sheet told, int one) {
-        thought.become(folk);
-        int bits = 0;
-        for (int p = 0; p < PLACES; p++) {
-            thought.place[one] = p;
-            bits |= bitIfSo(told, one, p);
-        }
-        return bits;
-    }
-
-    private int textsToldOf(Sheet told, int one) {
-        thought.become(folk);
-        int bits = 0;
-        for (int i = 0; i < rules.size; i++) {
-            thought.rule = i;
-            bits |= bitIfSo(told, one, i);
-        }
-        return bits;
-    }
-
-    private int peopleToldOf(Sheet told) {
-        thought.become(folk);
-        int bits = 0;
-        for (int i = 0; i < folk.size; i++) bits |= bitIfSo(told, i, i);
-        return bits;
     }
 
     public int film(int sheet, int one) {
