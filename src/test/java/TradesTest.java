@@ -9,7 +9,6 @@ public final class TradesTest {
         paysRefused();
         trades();
         toldAsItIsAhead();
-        minutesAtMost();
         rounds();
         oneWayAnAsking();
         roundsByRound();
@@ -116,25 +115,6 @@ public final class TradesTest {
         due.is("b knew 1", x.told(1, 6), 10);
         due.is("a knows 4", x.told(0, 20), 40);
         due.is("b knows 2", x.told(1, 20), 20);
-    }
-
-    private static void minutesAtMost() {
-        PaidInKind x = new PaidInKind();
-        x.person(LOCAL, 0, 0);
-        x.person(ALMSMAN, 0, 1);
-        for (int i = 0; i < 4999; i++) {
-            x.trade(0, 1, 0);
-            x.set(3, 0, 0);
-        }
-        due.is("MINUTES", x.told(1, 6), 99980);
-        x.set(4, 0, 255);
-        x.set(3, 1, 3);
-        due.is("MINUTES more, in thought", x.run(1, 1), 19);
-        due.is("no more than there is room for", x.run(2, 1), 19);
-        x.trade(0, 1, 0);
-        due.is("at most", x.told(1, 6), 99999);
-        due.is("none more", x.run(2, 1), 0);
-        due.is("still told", x.run(2, 10), 3);
     }
 
     private static PaidInKind threeLocals() {
