@@ -162,6 +162,7 @@ public final class TextBoundsTest {
             fault("takes " + name.substring(0, name.length() - 1) + ";worth 1;times 1;", 6);
             fault("takes " + name.substring(1) + ";worth 1;times 1;", 6);
             fault("takes " + name + "a;worth 1;times 1;", 6);
+            fault("takes " + name + "z;worth 1;times 1;", 6);
             fault("takes z" + name + ";worth 1;times 1;", 6);
             fault("takes " + name + name + ";worth 1;times 1;", 6);
             fault("takes " + name.toUpperCase() + ";worth 1;times 1;", 6);

@@ -1,3 +1,5 @@
+import java.util.Random;
+
 /** Promises 6 to 8: feed, text, force. */
 public final class TextsTest {
     private static final Due due = new Due("TextsTest");
@@ -248,29 +250,51 @@ public final class TextsTest {
         due.is("by TEXT 0", x.told(0, 35), 0);
     }
 
-    /** From any NUMBER, PLACE, number of ways and ROUND to any other, what the text says is of the new ones. */
+    private static final int RULE = 0, AT = 1, NUMBER = 2, KNOWN = 3, ROUND = 4, MILES = 5, THINGS = 6;
+
+    /** Whatever one or two things change that a text can look at, what it says then is of the new ones. */
     private static void everyChangeTells() {
-        PaidInKind x = new PaidInKind();
-        x.person(0, 0, 0);
-        Due.text(x, "takes place*8+round ; worth known*10+number ; times number+here*50 ;");
-        x.force(1);
-        int[] rounds = {0, 1, 2, 998, 999};
-        for (int i = 0; i < 90; i++) {
-            for (int j = 0; j < 90; j++) {
-                tell(x, i % 10, i / 10, i % 8, rounds[i % 5]);
-                tell(x, j % 10, j / 10, j % 8, rounds[j % 5]);
+        Random lot = new Random(7);
+        int[] rounds = {0, 1, 4, 19, 20, 21, 979, 980, 997, 998, 999};
+        int[] choices = {3, 8, 10, 9, rounds.length, 10};
+        for (int object = 0; object < 150; object++) {
+            PaidInKind x = new PaidInKind();
+            x.person(0, 0, 0);
+            Due.text(x, "takes round=place;worth known*10+number;times far+here*50;");
+            Due.text(x, "takes round+place=4;worth number*9+known;times far*2+here;");
+            int[] now = new int[THINGS];
+            for (int change = 0; change < 70; change++) {
+                for (int i = lot.nextInt(2); i < 2; i++) {
+                    int thing = lot.nextInt(THINGS);
+                    int choice = lot.nextInt(choices[thing]);
+                    change(x, thing, thing == ROUND ? rounds[choice] : choice);
+                    now[thing] = thing == ROUND ? rounds[choice] : choice;
+                }
+                if (now[RULE] > 0) tell(x, now);
             }
         }
     }
 
-    private static void tell(PaidInKind x, int number, int known, int at, int round) {
-        x.set(1, 0, number);
-        x.set(3, 0, (1 << known) - 1);
-        x.set(2, 0, at);
-        x.set(0, 0, round);
-        due.is("worth of " + known + ", " + number, x.told(0, 14), known * 10 + number);
-        due.is("time at " + at, x.told(0, 24), number + (at == 4 ? 50 : 0));
-        due.is("takes 0 in ROUND " + round, x.told(0, 30), round == 0 ? 0 : 1);
+    private static void change(PaidInKind x, int thing, int v) {
+        switch (thing) {
+            case RULE: x.force(v); break;
+            case AT: x.set(2, 0, v); break;
+            case NUMBER: x.set(1, 0, v); break;
+            case KNOWN: x.set(3, 0, (1 << v) - 1); break;
+            case ROUND: x.set(0, 0, v); break;
+            default: x.road(3, 4, v);
+        }
+    }
+
+    /** Of the way to 4, which only 3 has a ROAD to. */
+    private static void tell(PaidInKind x, int[] now) {
+        int here = now[AT] == 4 ? 1 : 0;
+        int far = here == 1 ? 0 : now[AT] == 3 && now[MILES] > 0 ? now[MILES] : 999;
+        boolean one = now[RULE] == 1;
+        String of = " of " + java.util.Arrays.toString(now);
+        due.is("worth" + of, x.told(0, 14), one ? now[KNOWN] * 10 + now[NUMBER] : now[NUMBER] * 9 + now[KNOWN]);
+        due.is("time" + of, x.told(0, 24), Math.min(99, one ? far + here * 50 : far * 2 + here));
+        due.is("takes" + of, x.told(0, 34), now[ROUND] == (one ? 4 : 0) ? 1 : 0);
     }
 
     /** As many numbers as can wait to be joined at once: five for each of six depths. */

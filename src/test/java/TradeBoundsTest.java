@@ -346,6 +346,10 @@ public final class TradeBoundsTest {
         x.person(ALMSMAN, 0, 255);
         x.set(4, 0, 255);
         for (int t = 0; t < 8; t++) due.is("SOON " + t, x.soon(0, t), t + 1);
+        x.set(3, 1, 127);
+        due.is("nobody KNOWS it", x.soon(0, 7), -1);
+        x.set(4, 0, 0);
+        due.is("one doesn't WANT it", x.soon(0, 0), -1);
     }
 
     /** "GIFT: the way such that ..": each of the eight can be it. */
